@@ -1607,7 +1607,14 @@ public final class AppealCourt {
                     assignment(depth);
                     break;
                 case Token.HOLD:
-                    holding(depth);
+                    advance();
+                    int slot = object();
+                    take('=');
+                    if (Token.isKind(type)) {
+                        newObjection(slot, depth);
+                    } else {
+                        otherObjection(slot);
+                    }
                     break;
                 case Token.RAISE:
                     raising();
@@ -1708,13 +1715,8 @@ public final class AppealCourt {
             emit(Deed.STORE, slot);
         }
 
-        private void holding(int depth) {
-            advance();
-            int slot = object();
-            take('=');
-            if (Token.isKind(type)) {
-                newObjection(slot, depth);
-            } else if (type == Token.CAUSE) {
+        private void otherObjection(int slot) {
+            if (type == Token.CAUSE) {
                 advance();
                 emit(Deed.HOLD_CAUSE, slot, object());
             } else {
@@ -1765,7 +1767,8 @@ public final class AppealCourt {
             }
             int slot = object();
             if (type == Token.IS || type == Token.SAME) {
-                questionOf(slot);
+                int deed = question();
+                emit(deed, slot, deed == Deed.IS ? kind() : object());
                 restOfExpression(depth);
                 emit(Deed.NOTE);
             } else {
@@ -1876,7 +1879,9 @@ public final class AppealCourt {
                     emit(Deed.LOAD, name());
                     break;
                 case Token.OBJECT:
-                    questionOf(object());
+                    int slot = object();
+                    int deed = question();
+                    emit(deed, slot, deed == Deed.IS ? kind() : object());
                     break;
                 case '-':
                     takeOpening('-', depth);
@@ -1889,34 +1894,35 @@ public final class AppealCourt {
                     take(')');
                     break;
                 default:
-                    telling();
+                    int what = toldProperty();
+                    emit(Deed.TELL, object(), what);
                     break;
             }
         }
 
-        private void questionOf(int slot) {
-            if (type == Token.IS) {
+        /** The deed that asks what stands behind an OBJECT. */
+        private int question() {
+            int deed = type == Token.IS ? Deed.IS : Deed.SAME;
+            if (type == Token.IS || type == Token.SAME) {
                 advance();
-                emit(Deed.IS, slot, kind());
-            } else if (type == Token.SAME) {
-                advance();
-                emit(Deed.SAME, slot, object());
             } else {
                 fail();
             }
+            return deed;
         }
 
-        private void telling() {
-            int what = whatIsTold();
+        /** What a word ahead of an OBJECT asks of it. */
+        private int toldProperty() {
+            int what = property();
             if (what == NONE) {
                 fail();
-                return;
+            } else {
+                advance();
             }
-            advance();
-            emit(Deed.TELL, object(), what);
+            return what;
         }
 
-        private int whatIsTold() {
+        private int property() {
             switch (type) {
                 case Token.GROUND:
                     return Docket.GROUND;

@@ -1,0 +1,77 @@
+import java.io.IOException;
+import java.lang.reflect.Constructor;
+import java.lang.reflect.Field;
+import java.lang.reflect.Method;
+import java.lang.reflect.Modifier;
+import java.nio.file.Files;
+import java.nio.file.Path;
+import java.util.Arrays;
+import java.util.List;
+import java.util.Set;
+import java.util.TreeSet;
+import java.util.regex.Matcher;
+import java.util.regex.Pattern;
+
+/** The document's face, and those rules of LANGUAGE.md that can be seen from outside. */
+public final class LanguageTest {
+    private static final List<String> METHODS = List.of("about(int)", "chain(int,int)", "complain(int,int,int)", "complaint(int,int,int)", "fault(int)",
+            "feed(int,int,int,int,int)", "note(int)", "policy(int,int,int,int)", "read(int)", "trial(int,int,int,int)");
+
+    public static void main(String[] args) throws IOException {
+        face();
+        source();
+        Checks.finish();
+    }
+
+    private static void face() {
+        Class<?> court = AppealCourt.class;
+        Checks.due("public and final", court.getModifiers(), Modifier.PUBLIC | Modifier.FINAL);
+        Set<String> names = new TreeSet<>();
+        for (Method m : court.getDeclaredMethods()) {
+            if (Modifier.isPrivate(m.getModifiers())) {
+                Checks.due("a private method named " + m.getName(), METHODS.stream().anyMatch(x -> x.startsWith(m.getName() + "(")), false);
+                continue;
+            }
+            Checks.due(m + " is public", Modifier.isPublic(m.getModifiers()), true);
+            Checks.due(m + " answers", m.getReturnType() == (m.getName().equals("policy") ? boolean.class : int.class), true);
+            String parameters = Arrays.toString(m.getParameterTypes()).replaceAll("[\\[\\] ]", "");
+            names.add(m.getName() + "(" + parameters + ")");
+        }
+        Checks.due("the methods " + names, names.equals(new TreeSet<>(METHODS)), true);
+        for (Field f : court.getDeclaredFields()) {
+            Checks.due("field " + f.getName(), Modifier.isPrivate(f.getModifiers()), !f.getName().equals("NONE"));
+        }
+        Constructor<?>[] constructors = court.getDeclaredConstructors();
+        Checks.due("constructors", constructors.length, 1);
+        Checks.due("it is public", Modifier.isPublic(constructors[0].getModifiers()), true);
+        Checks.due("it takes nothing", constructors[0].getParameterCount(), 0);
+        Checks.due("classes inside", court.getDeclaredClasses().length <= 12, true);
+        for (Class<?> inside : court.getDeclaredClasses()) {
+            Checks.due(inside + " is static", Modifier.isStatic(inside.getModifiers()), true);
+            Checks.due(inside + " is not public", Modifier.isPublic(inside.getModifiers()), false);
+            for (Field f : inside.getDeclaredFields()) {
+                boolean ok = !Modifier.isStatic(f.getModifiers()) || Modifier.isFinal(f.getModifiers());
+                Checks.due("a static field is final: " + f, ok, true);
+            }
+        }
+    }
+
+    private static void source() throws IOException {
+        String source = Files.readString(Path.of("src/main/java/AppealCourt.java"));
+        String code = source.replaceAll("(?s)/\\*.*?\\*/", " ").replaceAll("//[^\n]*", " ").replaceAll("\"[^\"\n]*\"", "\"\"").replaceAll("'[^'\n]'", "' '");
+        for (String word : "throw try catch synchronized assert throws package instanceof enum interface native".split(" ")) {
+            Checks.due("the word " + word, Pattern.compile("\\b" + word + "\\b").matcher(code).find(), false);
+        }
+        for (String sign : List.of("->", "::", "[][]", "double", "float", "System.", "Exact")) {
+            Checks.due("the sign " + sign, code.contains(sign), false);
+        }
+        Matcher imports = Pattern.compile("import ([^;]*);").matcher(code);
+        while (imports.find()) {
+            Checks.due("import " + imports.group(1), imports.group(1).equals("java.util.Arrays"), true);
+        }
+        Matcher calls = Pattern.compile("(Arrays|Math)\\.(\\w+)").matcher(code);
+        while (calls.find()) {
+            Checks.due(calls.group(), List.of("copyOf", "fill", "floorMod").contains(calls.group(2)), true);
+        }
+    }
+}
