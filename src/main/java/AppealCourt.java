@@ -617,7 +617,9 @@ public final class AppealCourt {
         static final int MAX_OBJECTS = 8;
 
         private static final int MAX_DEPTH = 12;
+        // A hearing has fewer than 20 blocks open, since a text with more is a FAULT.
         private static final int MAX_TRIES = 240;
+        // Three numbers wait in each of 20 expressions in one another, and those of a hear ahead of them.
         private static final int MAX_STACK = 128;
         // Far above 5,000 STEPS of the longest statement that 4,000 bytes can tell.
         private static final int MAX_DEEDS = 1000000000;
@@ -1142,7 +1144,6 @@ public final class AppealCourt {
         static final int IS = 224;
         static final int SAME = 225;
         static final int FIRST_KIND = 226;
-        static final int LATE_KIND = 228;
 
         static boolean isKind(int type) {
             return type >= FIRST_KIND && type < FIRST_KIND + Kind.COUNT;
@@ -1358,6 +1359,7 @@ public final class AppealCourt {
             int length = n < 0 ? 0 : n;
             int maxWords = Token.WORD_COUNT + length / 2 + 1;
             tokens = new Tokens(bytes, length, maxWords);
+            // A NAME or NUMBER of one byte becomes two numbers; nothing else needs as much for a byte.
             program = new Program(2 * length + 16);
             toldIn = new int[maxWords];
             slots = new int[maxWords];

@@ -91,6 +91,12 @@ public final class ReadTest {
             Checks.good(h("raise " + word + "1;"));
         }
         Checks.faulty(1, "hearing ^H() {}");
+        Checks.good(h("let b123456789 = 1; let c123456789 = 1; let x0 = 1; let x9 = 1; let xA = 1; let xZ = 1; let xa = 1; let xz = 1; let x = 1;"));
+        Checks.good(h("hold B123456789 = C123456789; hold X0 = X9; hold XA = XZ; hold Xa = Xz;"));
+        AppealCourt x = new AppealCourt();
+        Checks.feed(x, "hearing h(a) { a == ");
+        Checks.due("a sign cut off by the end", x.read(18), 1);
+        Checks.due("goes on until there", x.fault(1), 18);
         Checks.faulty(1, h("raise ^x;"));
     }
 
@@ -211,6 +217,8 @@ public final class ReadTest {
         Checks.faulty(1, h("note X same ^Any;"));
         Checks.faulty(1, h("note X same Y ^same Z;"));
         Checks.faulty(1, h("note 1 + X^;"));
+        Checks.faulty(1, h("note 1 + X ^Y;"));
+        Checks.faulty(1, h("note X ^Y;"));
         Checks.faulty(1, h("note 1 ^, 2;"));
     }
 
@@ -235,6 +243,10 @@ public final class ReadTest {
         Checks.faulty(1, h("if 1 {".repeat(19) + "note ^-1;" + "}".repeat(19)));
         Checks.good(h("if 1 {".repeat(19) + "note 1 - 1 - 1; note X is Any - 1; note X same X - 1; note ground X - 1;" + "}".repeat(19)));
         Checks.good(h("note -X is Any - ground X; ".repeat(30)));
+        Checks.good(h("if 1 {".repeat(17) + "hold X = Late((1), (1)); hear h((1), (1)); note ((1)); note --1;" + "}".repeat(17)));
+        Checks.faulty(1, h("if 1 {".repeat(18) + "hold X = Late(1, ^(1));" + "}".repeat(18)));
+        Checks.faulty(1, h("if 1 {".repeat(18) + "hear h(^(1), 1);" + "}".repeat(18)));
+        Checks.faulty(1, h("if 1 {".repeat(18) + "hear h(1, ^-1);" + "}".repeat(18)));
         Checks.good(h("try {".repeat(19) + "}lastly{}".repeat(19)));
         Checks.faulty(1, h("try {".repeat(19) + "try ^{} lastly {}" + "}lastly{}".repeat(19)));
         Checks.good(h("if (1) {} ".repeat(25)));
@@ -282,6 +294,7 @@ public final class ReadTest {
         Checks.good("hearing h(a, b, c, d) {}");
         Checks.faulty(3, "hearing h(a, b, c, d, ^e) {}");
         Checks.faulty(3, "hearing h(a, b, c, d, ^e, f) {}");
+        Checks.faulty(3, "hearing h(a,b,c,d,^e,f,g,h,i,j,k,l,m,n,o,p,q,r,s,t,u,v,w,x,y,z){}");
         String lets = "let c = 1; let d = 1; let e = 1; let f = 1; let g = 1; let i = 1; let j = 1; let k = 1; let l = 1;";
         Checks.good(h(lets + " let m = 1;"));
         Checks.faulty(3, h(lets + " let m = 1; let ^n = 1;"));

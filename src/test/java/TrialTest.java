@@ -15,6 +15,8 @@ public final class TrialTest {
         steps();
         otherLimits();
         wordsOfObjectionsRaised();
+        allThatIsOpen();
+        nothingIsLeftOver();
         Checks.finish();
     }
 
@@ -35,7 +37,7 @@ public final class TrialTest {
 
     private static void parameters() {
         AppealCourt x = Checks.court("hearing zero() { if 0 { let c = 7; let d = 7; } note c; note d; }"
-                + " hearing one(a) { let c = 0; note a; note c; }"
+                + " hearing one(a) { if 0 { let c = 5; } note a; note c; }"
                 + " hearing two(a, b) { if 0 { let c = 5; } note a; note b; note c; }"
                 + " hearing four(a, b, c, d) { note a; note b; note c; note d; }");
         x.trial(0, 8, 9, 50);
@@ -52,6 +54,7 @@ public final class TrialTest {
         Checks.tried(0, "note a + b * 3 - 1; note (a + b) * 3; note 10 - 4 - 3; note 100 / 7 / 2; note 2 * 7 % 4; note 7 - 2 * 3;", 12, 27, 3, 7, 2, 1);
         Checks.tried(0, "note -7 / 2; note 7 / -2; note -7 % 2; note 7 % -2; note -7 / -2; note -(7 % 4);", -3, -3, -1, 1, 3, -3);
         Checks.tried(0, "note 1 < 2; note 2 < 2; note 3 < 2; note 2 == 2; note 2 == 3; note 2 != 2; note 2 != 3; note 1 + 1 < 3;", 1, 0, 0, 1, 0, 0, 1, 1);
+        Checks.tried(0, "note 7 < 2 * 4; note 7 < 2 + 6; note 7 == 2 * 3 + 1; note 7 != 9 - 2; note 8 - 1 * 2 < 6 + 6 / 6;", 1, 1, 1, 0, 1);
         Checks.tried(0, "note -a; note - - a; note -a * b; note a - -b; note a * -b; note (1 < 2) + (2 < 1);", -7, 7, -14, 9, -14, 1);
         Checks.tried(0, "let m = -999999999 * 2 - 147483650; note m; note m - 1; note -m; note m / -1; note m % -1; note m * m; note (m < 0) + (m - 1 < 0);",
                 Checks.MIN, Checks.MAX, Checks.MIN, Checks.MIN, 0, 0, 1);
@@ -204,9 +207,12 @@ public final class TrialTest {
         Checks.due("a rest ends one hearing", x.trial(0, 0, 0, 99), 0);
         Checks.notes("and no try of another", x, 0, 1, 2, 3);
         Checks.due("rested with", x.about(1), 7);
-        x = Checks.court("hearing h() { note X; hold X = Any(1); hear g(); note X; } hearing g() { note X; hold X = Any(1); if 0 { let c = 1; } note c; c = 8; }");
+        x = Checks.court("hearing h() { note X; hold X = Any(1); hear g(); hear g(); note X; } hearing g() { note X; hold X = Any(1);"
+                + " if 0 { let c = 1; let d = 1; } note c; note d; c = 8; d = 9; }");
         x.trial(0, 0, 0, 99);
-        Checks.notes("each has its own", x, 0, 0, 0, 1);
+        Checks.notes("each has its own", x, 0, 0, 0, 0, 0, 0, 0, 1);
+        x.trial(1, 0, 0, 99);
+        Checks.notes("in the next trial, too", x, 0, 0, 0);
     }
 
     private static void steps() {
@@ -275,6 +281,53 @@ public final class TrialTest {
         Checks.due("100 of them are no matter", x.trial(0, 100, 0, 999), 0);
         x.complain(0, 0, 0);
         Checks.due("nor a COMPLAINT", x.trial(0, 99, 3, 999), 0);
+    }
+
+    /** 12 hearings with 12 NAMES, 8 OBJECTS and 17 tries each. */
+    private static void allThatIsOpen() {
+        StringBuilder text = new StringBuilder("hearing h(n) { ");
+        for (char c = 'a'; c <= 'k'; c++) {
+            text.append("let ").append(c).append(" = n * 12 + ").append(c - 'a').append("; ");
+        }
+        for (char c = 'A'; c <= 'H'; c++) {
+            text.append("hold ").append(c).append(" = Any(n * 8 + ").append(c - 'A').append("); ");
+        }
+        text.append("if n { hear h(n - 1); } note a + b + c + d + e + f + g + h + i + j + k;");
+        text.append(" note ground A + ground B + ground C + ground D + ground E + ground F + ground G + ground H; }");
+        AppealCourt x = Checks.court(text.toString());
+        Checks.due("RESTED", x.trial(0, 11, 0, 5000), 0);
+        for (int n = 0; n < 12; n++) {
+            Checks.due("NAMES of " + n, x.note(2 * n), 11 * 12 * n + 55);
+            Checks.due("OBJECTS of " + n, x.note(2 * n + 1), 8 * 8 * n + 28);
+        }
+        x = Checks.court("hearing h(n) { let c = 0; " + Checks.times(17, "try{") + "if n { hear h(n - 1); } else { raise X; }"
+                + Checks.times(16, "}lastly{c=c+1;}") + "}lastly{note c;} } hearing g() { try { hear h(10); } uphold Party Y { note ground Y; } }");
+        Checks.due("UPHELD", x.trial(0, 11, 0, 5000), 2);
+        Checks.notes("each lastly", x, 16, 16, 16, 16, 16, 16, 16, 16, 16, 16, 16, 16);
+        Checks.due("STEPS", x.about(3), 12 * (1 + 17 + 2 + 17));
+        Checks.due("RESTED", x.trial(1, 0, 0, 5000), 0);
+        Checks.notes("each lastly", x, 16, 16, 16, 16, 16, 16, 16, 16, 16, 16, 16, 1);
+    }
+
+    private static void nothingIsLeftOver() {
+        Checks.due("behind many upholds", Checks.tried(0, "let c = 90; while c { try { a = 1 + 2 * (3 + 4 * ground X); } uphold Any { c = c - 1; } } rest 1 + 2 * (3 + 4 * 5);").about(1), 47);
+        Checks.due("behind many lastlies", Checks.tried(0, "let c = 90; while c { try { try { a = 1 + 2 * (3 + 4 * ground X); } lastly { c = c - 1; } } uphold Any {} }"
+                + " rest 1 + 2 * (3 + 4 * 5);").about(1), 47);
+        AppealCourt x = Checks.court("hearing h() { let c = 300; while c { hear g(); c = c - 1; } rest 1 + 2 * (3 + 4 * 5); } hearing g() { rest 6; }");
+        Checks.due("behind many hears", x.trial(0, 0, 0, 5000), 0);
+        Checks.due("rested with", x.about(1), 47);
+        x = Checks.court("hearing h(n) { while n { hold X = Any(1); n = n - 1; } try { note " + Checks.times(17, "1 + 1 * (") + "ground Y" + Checks.times(17, ")")
+                + "; } uphold Party { note 5; rest 1 + 2 * (3 + 4 * 5); } }");
+        for (int i = 0; i < 9; i++) {
+            Checks.due("ADJOURNED in the middle", x.trial(0, 100, 0, 999), 3);
+        }
+        Checks.due("behind that", x.trial(0, 0, 0, 999), 0);
+        Checks.due("rested with", x.about(1), 47);
+        Checks.notes("upheld", x, 5);
+        x = Checks.court("hearing h(n) { if n { try { while 1 {} } uphold Any { note 1; } lastly { note 2; } } hold X = Any(1); raise X; }");
+        Checks.due("ADJOURNED in a try", x.trial(0, 1, 0, 9), 3);
+        Checks.due("no try is open any more", x.trial(0, 0, 0, 9), 2);
+        Checks.notes("none of its blocks", x);
     }
 
     private static void wordsOfObjectionsRaised() {
