@@ -91,7 +91,7 @@ public final class ReadTest {
             Checks.good(h("raise " + word + "1;"));
         }
         Checks.faulty(1, "hearing ^H() {}");
-        Checks.good(h("let b123456789 = 1; let c123456789 = 1; let x0 = 1; let x9 = 1; let xA = 1; let xZ = 1; let xa = 1; let xz = 1; let x = 1;"));
+        Checks.good(h("let b123456789 = 1; let c123456789 = 1; let d123456789 = 1; let x0 = 1; let x9 = 1; let xA = 1; let xZ = 1; let xa = 1; let xz = 1; let x = 1;"));
         Checks.good(h("hold B123456789 = C123456789; hold X0 = X9; hold XA = XZ; hold Xa = Xz;"));
         AppealCourt x = new AppealCourt();
         Checks.feed(x, "hearing h(a) { a == ");

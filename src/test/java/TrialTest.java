@@ -52,7 +52,7 @@ public final class TrialTest {
 
     private static void numbers() {
         Checks.tried(0, "note a + b * 3 - 1; note (a + b) * 3; note 10 - 4 - 3; note 100 / 7 / 2; note 2 * 7 % 4; note 7 - 2 * 3;", 12, 27, 3, 7, 2, 1);
-        Checks.tried(0, "note -7 / 2; note 7 / -2; note -7 % 2; note 7 % -2; note -7 / -2; note -(7 % 4);", -3, -3, -1, 1, 3, -3);
+        Checks.tried(0, "note -7 / 2; note 7 / -2; note -7 % 2; note 7 % -2; note -7 / -2; note -(7 % 4); note 7 / 1; note 6 % 1; note 0 / 5;", -3, -3, -1, 1, 3, -3, 7, 0, 0);
         Checks.tried(0, "note 1 < 2; note 2 < 2; note 3 < 2; note 2 == 2; note 2 == 3; note 2 != 2; note 2 != 3; note 1 + 1 < 3;", 1, 0, 0, 1, 0, 0, 1, 1);
         Checks.tried(0, "note 7 < 2 * 4; note 7 < 2 + 6; note 7 == 2 * 3 + 1; note 7 != 9 - 2; note 8 - 1 * 2 < 6 + 6 / 6;", 1, 1, 1, 0, 1);
         Checks.tried(0, "note -a; note - - a; note -a * b; note a - -b; note a * -b; note (1 < 2) + (2 < 1);", -7, 7, -14, 9, -14, 1);
