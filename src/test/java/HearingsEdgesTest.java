@@ -20,6 +20,8 @@ public final class HearingsEdgesTest {
         outOfAnUpholdsBlock();
         lastlyHoweverItIsLeft();
         lastlyOfATryInAHearing();
+        whatGoesOnBehindALastlyWithTries();
+        longestSums();
         oneStepTooMany();
         oneStepTooManyAnywhere();
         whileAheadOfEachTime();
@@ -279,6 +281,41 @@ public final class HearingsEdgesTest {
                 + " hearing g(k) { try { try { if k == 2 { raise N; } rest 30 + k; } lastly { note k; } note 9; } lastly { note 10 + k; } note 9; }");
         Checks.due("RESTED", x.trial(0, 0, 0, 99), 0);
         Checks.notes("each lastly", x, 1, 11, 31, 2, 12, 50, 31, 60);
+    }
+
+    /** "by its end, an objection or rest, which go on behind it". */
+    private static void whatGoesOnBehindALastlyWithTries() {
+        String[] blocks = {"try { note 1; } lastly { note 2; }", "try { note 1; try { raise N; } uphold Any { note 2; } lastly { c = 1; } } lastly { c = 2; }", "note 1; hear g(); note 2;"};
+        for (String block : blocks) {
+            String lastly = " lastly { c = 0; " + block + " } note 9;";
+            String tail = " } hearing g() { try { try { rest 44; } lastly { hold Z = none; } } lastly { hold Z = none; } }";
+            AppealCourt x = Checks.court("hearing h() { let c = 0; try { rest 21; }" + lastly + tail);
+            Checks.due("RESTED behind " + block, x.trial(0, 0, 0, 99), 0);
+            Checks.due("rested with", x.about(1), 21);
+            Checks.notes(block, x, 1, 2);
+            x = Checks.court("hearing h() { let c = 7; while c { hold X = Any(c); c = c - 1; } try { raise X; }" + lastly + tail);
+            Checks.due("UPHELD behind " + block, x.trial(0, 0, 0, 99), 2);
+            Checks.due("the objection", x.chain(0, 3), 7);
+            Checks.notes(block, x, 1, 2);
+            x = Checks.court("hearing h() { let c = 0; try { c = 1; }" + lastly + tail);
+            Checks.due("behind its end", x.trial(0, 0, 0, 99), 0);
+            Checks.notes(block, x, 1, 2, 9);
+        }
+    }
+
+    /** As much as can wait for its other half in 20 that are open in one another. */
+    private static void longestSums() {
+        AppealCourt x = Checks.court("hearing h() { note " + "0 < 1 + 2 * (".repeat(19) + "3" + ")".repeat(19) + "; hear g(5, 6, 7, " + "0 < 1 + 2 * (".repeat(18) + "3" + ")".repeat(18) + "); }"
+                + " hearing g(a, b, c, d) { note a; note b; note c; note d; }");
+        Checks.due("RESTED", x.trial(0, 0, 0, 9), 0);
+        Checks.notes("deep", x, 1, 5, 6, 7, 1);
+        x = Checks.court("hearing h(a) { rest " + "a - 2 * (".repeat(19) + "3" + ")".repeat(19) + "; }");
+        x.trial(0, 5, 0, 9);
+        int due = 3;
+        for (int i = 0; i < 19; i++) {
+            due = 5 - 2 * due;
+        }
+        Checks.due("rested with", x.about(1), due);
     }
 
     /** "A trial is ADJOURNED .. ahead of a statement .. that would be one STEP too many". */

@@ -53,11 +53,38 @@ public final class LanguageTest {
                 boolean ok = !Modifier.isStatic(f.getModifiers()) || Modifier.isFinal(f.getModifiers());
                 Checks.due("a static field is final: " + f, ok, true);
             }
+            sizes(inside);
+        }
+        sizes(court);
+    }
+
+    /** Rule 11, as far as a class tells it. */
+    private static void sizes(Class<?> c) {
+        long fields = Arrays.stream(c.getDeclaredFields()).filter(f -> !Modifier.isStatic(f.getModifiers())).count();
+        Checks.due(c + " has at most twenty fields", fields <= 20, true);
+        for (Method m : c.getDeclaredMethods()) {
+            Checks.due(m + " takes at most seven", m.getParameterCount() <= 7, true);
+        }
+    }
+
+    private static void methodLengths(String source) {
+        String[] lines = source.split("\n");
+        for (int i = 0; i < lines.length; i++) {
+            if (!lines[i].matches("( {4}| {8})\\w.*\\) \\{")) {
+                continue;
+            }
+            String indent = lines[i].replaceAll("\\S.*", "");
+            int end = i;
+            while (end < lines.length && !lines[end].equals(indent + "}")) {
+                end++;
+            }
+            Checks.due("lines of " + lines[i].trim(), end - i < 60, true);
         }
     }
 
     private static void source() throws IOException {
         String source = Files.readString(Path.of("src/main/java/AppealCourt.java"));
+        methodLengths(source);
         String code = source.replaceAll("(?s)/\\*.*?\\*/", " ").replaceAll("//[^\n]*", " ").replaceAll("\"[^\"\n]*\"", "\"\"").replaceAll("'[^'\n]'", "' '");
         for (String word : "throw try catch synchronized assert throws package instanceof enum interface native".split(" ")) {
             Checks.due("the word " + word, Pattern.compile("\\b" + word + "\\b").matcher(code).find(), false);

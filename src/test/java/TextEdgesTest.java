@@ -7,12 +7,15 @@ public final class TextEdgesTest {
         blanksBetweenAll();
         atMostFourThousand();
         lengthsOfNames();
+        namesThatAreNearlyAlike();
         lengthsOfObjects();
         lengthsOfNumbers();
         asLongAsCanBe();
         commaForLateAlone();
         upholdOrLastlyAtLeast();
         noteOfAnObjectAlone();
+        eachTokenMissing();
+        eachHearingsTokenMissing();
         theEndAnywhere();
         theFirstFaultOneCounts();
         twentyOneOpen();
@@ -119,6 +122,23 @@ public final class TextEdgesTest {
         Checks.faulty(2, h("let ab = 1; note ^aB;"));
     }
 
+    private static void namesThatAreNearlyAlike() {
+        String signs = "0123456789ABCDEFGHIJKLMNOPQRSTUVWXYZabcdefghijklmnopqrstuvwxyz";
+        for (int i = 0; i < signs.length(); i++) {
+            for (int j = 0; j < signs.length(); j++) {
+                String mark = i == j ? "" : "^";
+                for (String end : new String[] {"", "A", "z", "0"}) {
+                    String text = "hearing h(x" + signs.charAt(i) + end + ") { note " + mark + "x" + signs.charAt(j) + end + "; }";
+                    if (i == j) {
+                        Checks.good(text);
+                    } else {
+                        Checks.faulty(2, text);
+                    }
+                }
+            }
+        }
+    }
+
     /** "OBJECTS: a capital letter, likewise". */
     private static void lengthsOfObjects() {
         for (int n = 1; n <= 14; n++) {
@@ -187,6 +207,54 @@ public final class TextEdgesTest {
         Checks.faulty(1, h("note (X ^);"));
         Checks.faulty(1, h("note -X ^;"));
         Checks.faulty(1, h("rest X ^;"));
+    }
+
+    /**
+     * Each token of a form is left out in turn: "n": FAULT 1 is at the next token, "m": at the one behind it,
+     * "e": at the end, since a block's end is taken for the one that was left out; "-": a text goes on.
+     */
+    private static void missing(String head, String form, String faults, String tail) {
+        String[] tokens = (form + " " + tail).trim().split(" ");
+        Checks.due("tokens of " + form, form.split(" ").length, faults.length());
+        for (int i = 0; i < faults.length(); i++) {
+            char fault = faults.charAt(i);
+            StringBuilder text = new StringBuilder(head);
+            for (int k = 0; k < tokens.length; k++) {
+                boolean here = k == i + (fault == 'n' ? 1 : fault == 'm' ? 2 : -1 - i);
+                text.append(here ? " ^" : " ").append(k == i ? "" : tokens[k]);
+            }
+            boolean atTheEnd = fault == 'e' || text.indexOf("^") < 0;
+            if (fault == '-') {
+                Checks.good(text.toString());
+            } else {
+                Checks.faulty(1, text + (atTheEnd ? "^" : ""));
+            }
+        }
+    }
+
+    private static void eachTokenMissing() {
+        String[][] forms = {{"a = 1 ;", "nnnn"}, {"hold X = Y ;", "nnnnn"}, {"hold X = none ;", "nnnnn"}, {"hold X = cause Y ;", "nnn-nn"},
+            {"hold X = Late ( 1 , 2 ) because Y ;", "nnnnnnnnnnnn"}, {"hold X = Any ( 1 ) because none ;", "nnnnnnnnnn"}, {"raise X ;", "nnn"}, {"join X to Y ;", "nnnnn"},
+            {"join X to none ;", "nnnnn"}, {"note 1 ;", "nnn"}, {"note X ;", "nnn"}, {"hear h ( 1 , 2 ) into a ;", "mnnnnnnnnn"}, {"rest 1 ;", "n-n"}, {"if 1 { } else { }", "nnnnnne"},
+            {"while 1 { }", "nnne"}, {"try { } uphold Any X { } lastly { }", "nnnnn-nnnne"}, {"note ground X ;", "n-nn"}, {"note 1 + ground X ;", "nnnmnn"}, {"note X is Any ;", "nnnnn"},
+            {"note X same Y ;", "nnnnn"}, {"note ( 1 ) ;", "nmnnn"}, {"note - 1 ;", "n-nn"}, {"note 1 - 2 ;", "n-nnn"}};
+        for (String[] form : forms) {
+            missing("hearing h(a, b) {", form[0], form[1], "}");
+        }
+        missing("hearing h(a, b) { let", "c = 1 ;", "nnnn", "}");
+        Checks.faulty(2, "hearing h(a, b) { ^c = 1 ; }");
+        for (String sign : "+ * / % < == !=".split(" ")) {
+            missing("hearing h(a, b) {", "note 1 " + sign + " 2 ;", "nnnnn", "}");
+        }
+        for (String word : "days weight many serial".split(" ")) {
+            missing("hearing h(a, b) {", "rest 3 * " + word + " X ;", "nnnmnn", "}");
+        }
+    }
+
+    private static void eachHearingsTokenMissing() {
+        missing("", "hearing g ( a , b ) { }", "nnnnnnnne", "");
+        missing("hearing h() {}", "hearing g ( a , b ) { }", "nnnnnnnne", "");
+        missing("", "hearing g ( ) { }", "nnnnne", "");
     }
 
     /** "FAULT 1: the first token .. with which no text goes on, or the end". */
