@@ -1,4 +1,5 @@
 import java.io.IOException;
+import java.lang.management.ManagementFactory;
 import java.lang.reflect.Constructor;
 import java.lang.reflect.Field;
 import java.lang.reflect.Method;
@@ -20,6 +21,7 @@ public final class LanguageTest {
     public static void main(String[] args) throws IOException {
         face();
         source();
+        room();
         Checks.finish();
     }
 
@@ -49,13 +51,25 @@ public final class LanguageTest {
         for (Class<?> inside : court.getDeclaredClasses()) {
             Checks.due(inside + " is static", Modifier.isStatic(inside.getModifiers()), true);
             Checks.due(inside + " is not public", Modifier.isPublic(inside.getModifiers()), false);
-            for (Field f : inside.getDeclaredFields()) {
-                boolean ok = !Modifier.isStatic(f.getModifiers()) || Modifier.isFinal(f.getModifiers());
-                Checks.due("a static field is final: " + f, ok, true);
+            for (Method m : inside.getDeclaredMethods()) {
+                Checks.due("named as a public one: " + m, METHODS.stream().anyMatch(x -> x.startsWith(m.getName() + "(")), false);
             }
+            types(inside);
             sizes(inside);
         }
+        types(court);
         sizes(court);
+    }
+
+    /** Rules 3 and 5: what fields may hold. */
+    private static void types(Class<?> c) {
+        Set<Class<?>> numbers = Set.of(int.class, long.class, boolean.class, char.class, byte.class, int[].class, long[].class, byte[].class);
+        for (Field f : c.getDeclaredFields()) {
+            boolean own = f.getType().getName().startsWith("AppealCourt");
+            boolean plain = numbers.contains(f.getType()) || f.getType() == String.class;
+            Checks.due("the type of " + f, Modifier.isStatic(f.getModifiers()) ? plain : plain || own, true);
+            Checks.due("a static field is final: " + f, !Modifier.isStatic(f.getModifiers()) || Modifier.isFinal(f.getModifiers()), true);
+        }
     }
 
     /** Rule 11, as far as a class tells it. */
@@ -99,6 +113,63 @@ public final class LanguageTest {
         Matcher calls = Pattern.compile("(Arrays|Math)\\.(\\w+)").matcher(code);
         while (calls.find()) {
             Checks.due(calls.group(), List.of("copyOf", "fill", "floorMod").contains(calls.group(2)), true);
+        }
+        libraryCalls(code);
+    }
+
+    /** Rule 4: what is called on something is a method of the file, or one of those few of the library. */
+    private static void libraryCalls(String code) {
+        Set<String> known = new TreeSet<>(List.of("copyOf", "fill", "floorMod", "length", "charAt", "indexOf"));
+        Matcher declared = Pattern.compile("(?m)^ +[\\w ]*\\b(?:void|int|long|boolean|Program) (\\w+)\\([\\w, \\[\\]]*\\) \\{$").matcher(code);
+        while (declared.find()) {
+            known.add(declared.group(1));
+        }
+        Matcher calls = Pattern.compile("\\.(\\w+)\\(").matcher(code);
+        while (calls.find()) {
+            Checks.due("the call of " + calls.group(1), known.contains(calls.group(1)), true);
+        }
+        Matcher made = Pattern.compile("\\bnew (\\w+)").matcher(code);
+        while (made.find()) {
+            boolean own = code.contains("class " + made.group(1) + " {");
+            Checks.due("new " + made.group(1), own || List.of("int", "long", "byte").contains(made.group(1)), true);
+        }
+    }
+
+    /** Rule 12: one run's calls share 7.3 million elements and 600,000 objects, so as many bytes are less than that. */
+    private static void room() {
+        Runnable[] runs = {LanguageTest::manyReads, LanguageTest::longReads, LanguageTest::manyObjections};
+        com.sun.management.ThreadMXBean threads = (com.sun.management.ThreadMXBean) ManagementFactory.getThreadMXBean();
+        long me = Thread.currentThread().getId();
+        for (Runnable run : runs) {
+            run.run();
+            long before = threads.getThreadAllocatedBytes(me);
+            run.run();
+            long bytes = threads.getThreadAllocatedBytes(me) - before;
+            Checks.due("a run of 512 calls made " + bytes + " bytes", bytes < 7300000, true);
+        }
+    }
+
+    private static void manyReads() {
+        AppealCourt court = new AppealCourt();
+        for (int i = 0; i < 512; i++) {
+            court.read(0);
+        }
+    }
+
+    private static void longReads() {
+        AppealCourt court = new AppealCourt();
+        for (int i = 0; i < 512; i++) {
+            int fed = court.feed(0x20202020, 0x20202020, 0x20202020, 0x20202020, 0x20202020);
+            if (fed == 4000) {
+                court.read(4000);
+            }
+        }
+    }
+
+    private static void manyObjections() {
+        AppealCourt court = Checks.court("hearing h() { while 1 { hold X = Any(1); } }");
+        for (int i = 0; i < 500; i++) {
+            court.trial(0, 0, 0, 5000);
         }
     }
 }
